@@ -2,7 +2,6 @@ import java.lang.reflect.InvocationTargetException;
 import java.lang.reflect.Method;
 import java.util.ArrayList;
 import java.util.Arrays;
-import java.util.Comparator;
 import java.util.List;
 import java.util.NoSuchElementException;
 import java.util.Random;
@@ -21,13 +20,7 @@ public final class AnyCallTest {
 
     public static void main(String[] args) throws Exception {
         Check c = new Check("AnyCallTest");
-        List<Method> face = new ArrayList<>();
-        for (Method m : JoinedMonths.class.getMethods()) {
-            if (m.getDeclaringClass() == JoinedMonths.class) {
-                face.add(m);
-            }
-        }
-        face.sort(Comparator.comparing(Method::getName));
+        List<Method> face = Draw.face();
         for (int run = 0; run < RUNS; run++) {
             Random r = new Random(1000 + run);
             JoinedMonths x = new JoinedMonths();

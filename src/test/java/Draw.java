@@ -1,4 +1,7 @@
 import java.lang.reflect.Method;
+import java.util.ArrayList;
+import java.util.Comparator;
+import java.util.List;
 import java.util.Random;
 
 /** Draws arguments and texts that are mostly such as can be, at the edges often, wrong at times. */
@@ -6,6 +9,18 @@ final class Draw {
     private static final String SIGNS = "abcdewscv0123456789+-mrkli \377x";
 
     private Draw() {
+    }
+
+    /** The calls of the face; sorted, as reflection has no order of its own and each time the same runs are to be drawn. */
+    static List<Method> face() {
+        List<Method> face = new ArrayList<>();
+        for (Method m : JoinedMonths.class.getMethods()) {
+            if (m.getDeclaringClass() == JoinedMonths.class) {
+                face.add(m);
+            }
+        }
+        face.sort(Comparator.comparing(Method::getName));
+        return face;
     }
 
     static Object[] args(Random r, Method m) {

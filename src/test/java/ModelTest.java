@@ -1,7 +1,5 @@
 import java.lang.reflect.InvocationTargetException;
 import java.lang.reflect.Method;
-import java.util.ArrayList;
-import java.util.Comparator;
 import java.util.List;
 import java.util.Random;
 
@@ -12,14 +10,7 @@ public final class ModelTest {
 
     public static void main(String[] args) throws Exception {
         Check c = new Check("ModelTest");
-        List<Method> face = new ArrayList<>();
-        for (Method m : JoinedMonths.class.getMethods()) {
-            if (m.getDeclaringClass() == JoinedMonths.class) {
-                face.add(m);
-            }
-        }
-        // Reflection tells methods in no order of its own: sorted, the same runs are drawn each time.
-        face.sort(Comparator.comparing(Method::getName));
+        List<Method> face = Draw.face();
         for (int run = 0; run < RUNS; run++) {
             run(c, face, run);
         }

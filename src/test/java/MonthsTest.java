@@ -141,6 +141,13 @@ public final class MonthsTest {
         none.sets(1, 0);
         none.total();
         C.row("none bears without MONTHS", none, 0, -1, 0);
+        JoinedMonths one = Check.with("aw000000100");
+        one.sets(1, 1);
+        one.total();
+        C.row("OWN of 1 is enough", one, 100, 0, 0);
+        one.sets(1, 0);
+        one.own(0);
+        C.row("OWN of 1 is enough", one, 1, 0, 100, 1);
         JoinedMonths most = Check.with("aw000011100bw012024100");
         most.total();
         C.row("the most OWN bears", most, 100, 1, 0);
@@ -225,5 +232,7 @@ public final class MonthsTest {
         C.is("both(1, 5)", x.both(1, 5), -1);
         C.is("both(5, 5)", x.both(5, 5), -1);
         C.is("the ROW stays", x.count(6), 3);
+        JoinedMonths edge = Check.with("aw000000100bw000000100aw359359100bv359359100");
+        C.is("the first and the last MONTH", edge.both(0, 1), 2);
     }
 }

@@ -69,6 +69,9 @@ public final class WouldBeTest {
         C.is("without(-1)", x.without(-1), -1);
         C.row("the ROW stays", x, 0, -1, -1);
         C.is("all are there", x.count(0), 3);
+        JoinedMonths one = Check.with("aw000059100");
+        C.is("without the only one", one.without(0), 100000 - 612);
+        C.row("without the only one", one, 60, 0, 59);
         JoinedMonths gap = Check.with("aw000000101aw002002001aw005005002");
         gap.without(1);
         C.row("GAPS become another", gap, 3, 2, 4);
@@ -199,6 +202,10 @@ public final class WouldBeTest {
         JoinedMonths end = Check.with("aw300350100");
         C.is("up to MONTH 359", end.buys(0, 24, 100), 100000 + 612);
         C.row("up to MONTH 359", end, 9);
+        JoinedMonths first = Check.with("aw000000100bw002359100");
+        first.sets(0, 0);
+        C.is("behind MONTH 0 alone", first.buys(1, 2, 100), 100000 + 3672 - 3661);
+        C.row("behind MONTH 0 alone", first, 1);
         JoinedMonths last = Check.with("aw359359100");
         C.is("none is left", last.buys(0, 24, 100), 100000);
         C.row("none is left", last, 0);
