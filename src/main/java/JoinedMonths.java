@@ -587,6 +587,8 @@ public final class JoinedMonths {
         if (n < 1 || n > DRAWN) {
             return NONE;
         }
+        // Drawn in the trial alone: what years() did is forgotten behind it.
+        trial.copy(now);
         int r = seed;
         for (int i = 0; i < n; i++) {
             r = nextDraw(r);
@@ -599,16 +601,16 @@ public final class JoinedMonths {
             int to = Math.min(MONTHS - 1, from + drawn(r, 40));
             r = nextDraw(r);
             int pay = 1 + drawn(r, 300);
-            if (now.size >= SPANS) {
-                now.drop(0);
+            if (trial.size >= SPANS) {
+                trial.drop(0);
             }
-            now.bring(country, kind, from, to, pay);
+            trial.bring(country, kind, from, to, pay);
         }
-        claims.reckon(now);
+        trialClaims.reckon(trial);
         row.clear();
-        row.tell(claims.joined);
-        row.tell(claims.months.gapCount);
-        return claims.all;
+        row.tell(trialClaims.joined);
+        row.tell(trialClaims.months.gapCount);
+        return trialClaims.all;
     }
 
     // ---- kept

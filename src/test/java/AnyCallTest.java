@@ -13,7 +13,7 @@ public final class AnyCallTest {
     private static final Set<String> THROWING = Set.of("span", "law", "month", "row");
     private static final Set<String> READING = Set.of("spans", "laws", "ranks", "day");
     private static final Set<String> CHANGING = Set.of("spans", "laws", "ranks", "sheet", "comes", "goes", "lasts",
-            "becomes", "indexes", "sets", "day", "undo", "years", "again");
+            "becomes", "indexes", "sets", "day", "undo", "again");
     private static final int[] EDGES = {Integer.MIN_VALUE, Integer.MIN_VALUE + 1, -100000, -2, -1, 0, 1, 2, 3, 4, 5, 19,
         20, 21, 24, 25, 29, 30, 31, 60, 61, 99, 100, 240, 241, 359, 360, 399, 400, 401, 999, 1000, 65536,
         Integer.MAX_VALUE - 1, Integer.MAX_VALUE};
@@ -24,7 +24,12 @@ public final class AnyCallTest {
         for (int run = 0; run < RUNS; run++) {
             Random r = new Random(1000 + run);
             JoinedMonths x = new JoinedMonths();
-            for (int i = 0; i < 512; i++) {
+            int brought = r.nextInt(21);
+            for (int i = 0; i < brought; i++) {
+                int[] v = Draw.possibleSpan(r);
+                x.comes(v[0], v[1], v[2], v[3], v[4]);
+            }
+            for (int i = 0; i < 490; i++) {
                 Method m = face.get(r.nextInt(face.size()));
                 call(c, x, m, r.nextInt(3) == 0 ? Draw.args(r, m) : edges(r, m));
             }

@@ -252,16 +252,99 @@ public final class ChangesTest {
                 drawn(seed, n);
             }
         }
-        JoinedMonths kept = Check.with("aw000059100");
-        kept.years(5, 3);
-        C.is("years() is not kept", kept.count(5), 1);
-        C.is("the call ahead of it is undone", kept.undo(), 0);
-        C.is("no SPANS", kept.count(0), 0);
+        twoYears();
+        forgotten();
+        sheetBehindYears();
+    }
+
+    private static void twoYears() {
+        JoinedMonths x = Check.with("aw000009100bv010019200");
+        int first = x.years(17, 30);
+        C.is("a second one begins anew", x.years(17, 30), first);
+        JoinedMonths full = Check.with("aw000059100");
+        while (full.count(0) < 20) {
+            full.comes(1, 1, 0, 359, 1);
+        }
+        drawnFrom(full, 23, 30);
+        drawnFrom(full, 23, 1);
+    }
+
+    /** Each call behind years() answers as it would without it. */
+    private static void forgotten() {
+        for (int spans = 0; spans <= 20; spans += 5) {
+            JoinedMonths x = new JoinedMonths();
+            JoinedMonths y = new JoinedMonths();
+            for (int k = 0; k < spans; k++) {
+                x.comes(k % 5, k % 4, 10 * k, 10 * k + 8 + k % 3, 50 + k);
+                y.comes(k % 5, k % 4, 10 * k, 10 * k + 8 + k % 3, 50 + k);
+            }
+            x.keep(0);
+            y.keep(0);
+            x.sign(0x61773030);
+            y.sign(0x61773030);
+            x.years(5, 30);
+            same("years() is forgotten", x, y);
+            x.years(6, 1);
+            C.is("comes() behind it", x.comes(0, 0, 0, 9, 7), y.comes(0, 0, 0, 9, 7));
+            same("comes() behind it", x, y);
+            x.years(7, 3);
+            C.is("undo() behind it", x.undo(), y.undo());
+            same("undo() behind it", x, y);
+            x.years(8, 30);
+            C.yes("again() behind it", x.again(0) && y.again(0));
+            same("again() behind it", x, y);
+            x.years(9, 30);
+            x.keep(1);
+            x.again(1);
+            y.again(0);
+            same("what is kept behind it", x, y);
+        }
+    }
+
+    private static void sheetBehindYears() {
+        JoinedMonths x = new JoinedMonths();
+        x.years(0, 1);
+        C.is("no SPAN behind it", x.sheet(0, 1, 0, 0), 0);
+        C.is("nothing can be undone", x.undo(), -1);
+        x.comes(0, 0, 0, 59, 100);
+        x.years(0, 30);
+        C.is("one SPAN behind it", x.sheet(2, 20, 7, 0), 1);
+    }
+
+    private static void same(String what, JoinedMonths x, JoinedMonths y) {
+        for (int i : new int[] {0, 1, 2, 3, 4, 5, 7, 8}) {
+            C.is(what + ", count(" + i + ")", x.count(i), y.count(i));
+        }
+        for (int k = 0; k < Math.min(x.count(0), y.count(0)); k++) {
+            for (int i = 0; i < 6; i++) {
+                C.is(what + ", span(" + k + ", " + i + ")", x.span(k, i), y.span(k, i));
+            }
+        }
+        for (int m = 0; m < 360; m++) {
+            for (int i = 0; i < 5; i++) {
+                C.is(what + ", month(" + m + ", " + i + ")", x.month(m, i), y.month(m, i));
+            }
+        }
+        for (int country = 0; country < 5; country++) {
+            C.is(what + ", own()", x.own(country), y.own(country));
+            C.is(what + ", paid()", x.paid(country), y.paid(country));
+        }
+        C.is(what + ", gaps()", x.gaps(), y.gaps());
+        C.is(what + ", late()", x.late(4, 2, 100, 359, 999), y.late(4, 2, 100, 359, 999));
     }
 
     private static void drawn(int seed, int n) {
-        JoinedMonths x = Check.with("aw000009100bv010019200");
-        JoinedMonths y = Check.with("aw000009100bv010019200");
+        drawnFrom(Check.with("aw000009100bv010019200"), seed, n);
+    }
+
+    /** What years() tells is what the same comes() by hand would be; x is behind it as it was. */
+    private static void drawnFrom(JoinedMonths x, int seed, int n) {
+        JoinedMonths y = new JoinedMonths();
+        JoinedMonths as = new JoinedMonths();
+        for (int k = 0; k < x.count(0); k++) {
+            y.comes(x.span(k, 0), x.span(k, 1), x.span(k, 2), x.span(k, 3), x.span(k, 4));
+            as.comes(x.span(k, 0), x.span(k, 1), x.span(k, 2), x.span(k, 3), x.span(k, 4));
+        }
         long r = seed;
         int[] of = {5, 4, 360, 40, 300};
         int[] v = new int[5];
@@ -277,11 +360,7 @@ public final class ChangesTest {
         }
         C.is("ALL then", x.years(seed, n), y.count(4));
         C.row("TOTAL, GAPS", x, y.total(), y.gaps());
-        C.is("as many", x.count(0), y.count(0));
-        for (int k = 0; k < y.count(0); k++) {
-            for (int what = 0; what < 6; what++) {
-                C.is("drawn", x.span(k, what), y.span(k, what));
-            }
-        }
+        C.is("SPANS as ahead of it", x.count(0), as.count(0));
+        C.is("ALL as ahead of it", x.count(4), as.count(4));
     }
 }

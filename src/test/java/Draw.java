@@ -94,6 +94,11 @@ final class Draw {
         return edge == 0 ? -1 : edge == 1 ? most + 1 : edge == 2 ? most : edge == 3 ? 0 : r.nextInt(most + 1);
     }
 
+    static int[] possibleSpan(Random r) {
+        int from = r.nextInt(360);
+        return new int[] {r.nextInt(5), r.nextInt(4), from, Math.min(359, from + r.nextInt(40)), 1 + r.nextInt(300)};
+    }
+
     static int four(String text, int at) {
         int v = 0;
         for (int j = at; j < at + 4; j++) {

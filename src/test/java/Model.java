@@ -767,7 +767,7 @@ public final class Model {
         if (n < 1 || n > 30) {
             return -1;
         }
-        now = now.twin();
+        State drawn = now.twin();
         int[] of = {5, 4, 360, 40, 300};
         long[] v = new long[5];
         long r = seed & 0xffffffffL;
@@ -776,13 +776,13 @@ public final class Model {
                 r = r * 1103515245L + 12345L & 0xffffffffL;
                 v[j] = r / 65536 % of[j];
             }
-            if (now.spans.size() == 20) {
-                now.goes(0);
+            if (drawn.spans.size() == 20) {
+                drawn.goes(0);
             }
-            now.comes((int) v[0], (int) v[1], (int) v[2], (int) Math.min(359, v[2] + v[3]), (int) v[4] + 1);
+            drawn.comes((int) v[0], (int) v[1], (int) v[2], (int) Math.min(359, v[2] + v[3]), (int) v[4] + 1);
         }
-        Sums s = new Sums(now);
-        return tell(s.all, s.total, now.gaps().size());
+        Sums s = new Sums(drawn);
+        return tell(s.all, s.total, drawn.gaps().size());
     }
 
     // ---- kept

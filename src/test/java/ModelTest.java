@@ -21,10 +21,10 @@ public final class ModelTest {
         Random r = new Random(run);
         JoinedMonths x = new JoinedMonths();
         Model y = new Model();
-        if (r.nextInt(3) > 0) {
-            int seed = r.nextInt();
-            int n = 1 + r.nextInt(20);
-            c.is("years()", x.years(seed, n), y.years(seed, n));
+        int brought = r.nextInt(3) > 0 ? 1 + r.nextInt(20) : 0;
+        for (int i = 0; i < brought; i++) {
+            int[] v = Draw.possibleSpan(r);
+            c.is("comes()", x.comes(v[0], v[1], v[2], v[3], v[4]), y.comes(v[0], v[1], v[2], v[3], v[4]));
         }
         for (int i = 0; i < CALLS; i++) {
             Method m = face.get(r.nextInt(face.size()));

@@ -8,6 +8,9 @@ public final class RoomTest {
     public static void main(String[] args) {
         Check c = new Check("RoomTest");
         JoinedMonths x = new JoinedMonths();
+        for (int k = 0; k < 20; k++) {
+            x.comes(k % 5, k % 4, 17 * k, 17 * k + 12 + k % 9, 100 + k);
+        }
         calls(x);
         long before = made();
         long nothing = made() - before;
