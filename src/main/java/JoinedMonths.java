@@ -450,18 +450,16 @@ public final class JoinedMonths {
             return NOT_THERE;
         }
         trial.copy(now);
-        trialClaims.reckon(trial);
+        Months months = claims.months;
         int bought = 0;
-        // A MONTH that is bought can make the rest of its GAP short enough to be CREDITED.
-        for (int i = 0; i < n; i++) {
-            int m = trialClaims.months.firstLeftOut();
-            if (m == NONE) {
-                break;
+        // By what there is, not by the trial: a GAP that gets short by what is bought is CREDITED only behind it all.
+        for (int m = months.firstCovered(); m < MONTHS && bought < n; m++) {
+            if (months.wayOf(m) == 0) {
+                trial.append(country, VOLUNTARY, m, m, p);
+                bought++;
             }
-            trial.append(country, VOLUNTARY, m, m, p);
-            trialClaims.reckon(trial);
-            bought++;
         }
+        trialClaims.reckon(trial);
         row.clear();
         row.tell(bought);
         return EVEN + trialClaims.all - claims.all;
@@ -1264,16 +1262,14 @@ public final class JoinedMonths {
             return together;
         }
 
-        /** The first MONTH behind a covered one that neither COUNTS nor is CREDITED. */
-        private int firstLeftOut() {
-            boolean begun = false;
+        /** The first MONTH that a SPAN covers; behind all MONTHS without SPANS. */
+        private int firstCovered() {
             for (int m = 0; m < MONTHS; m++) {
-                begun = begun || by[m] != NONE;
-                if (begun && land[m] == NONE) {
+                if (by[m] != NONE) {
                     return m;
                 }
             }
-            return NONE;
+            return MONTHS;
         }
     }
 

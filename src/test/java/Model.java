@@ -621,22 +621,21 @@ public final class Model {
         if (now.spans.isEmpty()) {
             return -2;
         }
-        State next = now.twin();
         int first = 0;
         while (now.covering(first).isEmpty()) {
             first++;
         }
-        int bought = 0;
-        for (int i = 0; i < n; i++) {
-            int[][] months = next.months();
-            int m = first;
-            while (m < 360 && months[m][0] != 0) {
-                m++;
+        int[][] months = now.months();
+        List<Integer> left = new ArrayList<>();
+        for (int m = first; m < 360; m++) {
+            if (months[m][0] == 0) {
+                left.add(m);
             }
-            if (m < 360) {
-                next.spans.add(new int[] {c, 3, m, m, p});
-                bought++;
-            }
+        }
+        int bought = Math.min(n, left.size());
+        State next = now.twin();
+        for (int m : left.subList(0, bought)) {
+            next.spans.add(new int[] {c, 3, m, m, p});
         }
         return tell(100000 + new Sums(next).all - new Sums(now).all, bought);
     }

@@ -10,7 +10,8 @@ public final class WouldBeTest {
         worth();
         best();
         buys();
-        buysOneByOne();
+        buysByWhatThereIs();
+        buysAsIfTheyCame();
         missing();
         earns();
         part();
@@ -214,13 +215,66 @@ public final class WouldBeTest {
         C.row("more than 20", full, 24);
     }
 
-    private static void buysOneByOne() {
-        // Of the seven MONTHS of the GAP the first is bought, the six others are CREDITED then.
+    private static void buysByWhatThereIs() {
+        // A GAP of seven MONTHS, one too long: with the first one bought the six others would be CREDITED.
         JoinedMonths x = Check.with("aw000025100aw033058100");
-        C.is("one: 59 MONTHS are too few", x.buys(0, 1, 100), 100000);
-        C.row("one", x, 1);
-        C.is("two: the second is behind all", x.buys(0, 2, 100), 100000 + 600 + 60 * 20 * 95 / 10000);
-        C.row("two", x, 2);
+        for (int n = 1; n <= 7; n++) {
+            C.is("all within the GAP: 59 MONTHS are too few", x.buys(0, n, 100), 100000);
+            C.row("all within the GAP", x, n);
+        }
+        C.is("the eighth is behind all", x.buys(0, 8, 100), 100000 + 612);
+        C.row("the eighth is behind all", x, 8);
+        C.is("the whole GAP and 17 behind all", x.buys(0, 24, 100), 100000 + 760 + 76 * 20 * 100 / 10000);
+        C.row("24", x, 24);
+        JoinedMonths told = Check.with("aw000059100bw066125200");
+        told.sets(0, 5);
+        C.is("the run of issue 8", told.buys(0, 2, 1), 100060);
+        C.row("the run of issue 8", told, 2);
+        JoinedMonths few = Check.with("aw000009100bw017359100");
+        C.is("no more than there were", few.buys(2, 24, 100), 100000 + asIfTheyCame(few, 2, 24, 100) - few.count(4));
+        few.buys(2, 24, 100);
+        C.row("no more than there were", few, 7);
+    }
+
+    /** buys() against SPANS that come by hand in the MONTHS that month() tells, on objects with GAPS of many lengths. */
+    private static void buysAsIfTheyCame() {
+        java.util.Random random = new java.util.Random(8);
+        for (int i = 0; i < 400; i++) {
+            JoinedMonths x = new JoinedMonths();
+            int from = random.nextInt(30);
+            for (int k = 0; k < 1 + random.nextInt(8) && from < 360; k++) {
+                int to = Math.min(359, from + random.nextInt(50));
+                x.comes(random.nextInt(5), random.nextInt(4), from, to, 1 + random.nextInt(999));
+                from = to + 1 + random.nextInt(16);
+            }
+            x.sets(0, random.nextInt(12));
+            x.becomes(random.nextInt(5), 0, 1 + random.nextInt(60));
+            int country = random.nextInt(5);
+            int n = 1 + random.nextInt(12);
+            int pay = 1 + random.nextInt(999);
+            int all = x.count(4);
+            int due = 100000 + asIfTheyCame(x, country, n, pay) - all;
+            C.is("buys(" + country + ", " + n + ", " + pay + ") of object " + i, x.buys(country, n, pay), due);
+            C.is("nothing is changed", x.count(4), all);
+        }
+    }
+
+    private static int asIfTheyCame(JoinedMonths x, int country, int n, int pay) {
+        java.util.List<Integer> left = new java.util.ArrayList<>();
+        boolean begun = false;
+        for (int m = 0; m < 360 && left.size() < n; m++) {
+            begun = begun || x.month(m, 4) > 0;
+            if (begun && x.month(m, 0) == 0) {
+                left.add(m);
+            }
+        }
+        x.keep(0);
+        for (int m : left) {
+            x.comes(country, 3, m, m, pay);
+        }
+        int all = x.count(4);
+        x.again(0);
+        return all;
     }
 
     private static void missing() {
