@@ -124,12 +124,13 @@ public final class ChangesTest {
         String[] acts = {"+aw360000001", "+aw005004001", "+aw000000000", "-02", "m02000001", "m00100111", "m00001000",
             "ra0001", "ra0241", "re1100", "k25", "l61", "l00", "i30100", "i00100", "i00049", "i00401"};
         for (String act : acts) {
-            C.is(act + " can't be", day(x, act + "k07"), 0);
-            C.row(act + " can't be", x, 1, x.count(4));
-            C.is(act + " stops", day(x, "k07" + act + "k08"), 1);
-            C.row(act + " stops", x, 1, x.count(4));
-            C.is("CREDIT", x.count(1), 7);
-            x.undo();
+            JoinedMonths y = new JoinedMonths();
+            day(y, "+bv100111001+cs000000999ra0001k00l00");
+            C.is(act + " can't be", day(y, act + "k07"), 0);
+            C.row(act + " can't be", y, 1, y.count(4));
+            C.is(act + " stops", day(y, "k07" + act + "k08"), 1);
+            C.row(act + " stops", y, 1, y.count(4));
+            C.is("CREDIT", y.count(1), 7);
         }
         C.is("CREDIT is so", day(x, "k00k07"), 0);
         C.row("CREDIT is so", x, 1, x.count(4));
@@ -269,35 +270,28 @@ public final class ChangesTest {
         drawnFrom(full, 23, 1);
     }
 
-    /** Each call behind years() answers as it would without it. */
+    /** Each call behind years() answers as it would without it, and does the same. */
     private static void forgotten() {
+        Look.Act[] behind = {x -> x.count(0), x -> x.comes(0, 0, 0, 9, 7), x -> x.undo(), x -> x.again(0) ? 1 : 0,
+            x -> x.keep(1) ? 1 : 0, x -> x.sheet(2, 20, 7, 0), x -> x.goes(0), x -> x.late(4, 2, 100, 359, 999),
+            x -> x.gaps(), x -> x.total(), x -> x.sign(0x30303030)};
         for (int spans = 0; spans <= 20; spans += 5) {
-            JoinedMonths x = new JoinedMonths();
-            JoinedMonths y = new JoinedMonths();
-            for (int k = 0; k < spans; k++) {
-                x.comes(k % 5, k % 4, 10 * k, 10 * k + 8 + k % 3, 50 + k);
-                y.comes(k % 5, k % 4, 10 * k, 10 * k + 8 + k % 3, 50 + k);
+            int there = spans;
+            Look.Maker without = () -> {
+                JoinedMonths x = Check.withSpans(there);
+                x.keep(0);
+                x.comes(1, 1, 5, 50, 55);
+                x.sign(0x61773030);
+                return x;
+            };
+            Look.Maker with = Look.then(without, x -> x.years(there, 30));
+            for (int i = 0; i < behind.length; i++) {
+                C.is("call " + i + " behind it", behind[i].on(with.make()), behind[i].on(without.make()));
+                Look.Maker withThen = Look.then(with, behind[i]);
+                Look.Maker withoutThen = Look.then(without, behind[i]);
+                C.yes("what call " + i + " does", Look.butRow(withThen).equals(Look.butRow(withoutThen)));
+                C.yes("MONTHS behind call " + i, Look.months(withThen).equals(Look.months(withoutThen)));
             }
-            x.keep(0);
-            y.keep(0);
-            x.sign(0x61773030);
-            y.sign(0x61773030);
-            x.years(5, 30);
-            same("years() is forgotten", x, y);
-            x.years(6, 1);
-            C.is("comes() behind it", x.comes(0, 0, 0, 9, 7), y.comes(0, 0, 0, 9, 7));
-            same("comes() behind it", x, y);
-            x.years(7, 3);
-            C.is("undo() behind it", x.undo(), y.undo());
-            same("undo() behind it", x, y);
-            x.years(8, 30);
-            C.yes("again() behind it", x.again(0) && y.again(0));
-            same("again() behind it", x, y);
-            x.years(9, 30);
-            x.keep(1);
-            x.again(1);
-            y.again(0);
-            same("what is kept behind it", x, y);
         }
     }
 
@@ -309,28 +303,6 @@ public final class ChangesTest {
         x.comes(0, 0, 0, 59, 100);
         x.years(0, 30);
         C.is("one SPAN behind it", x.sheet(2, 20, 7, 0), 1);
-    }
-
-    private static void same(String what, JoinedMonths x, JoinedMonths y) {
-        for (int i : new int[] {0, 1, 2, 3, 4, 5, 7, 8}) {
-            C.is(what + ", count(" + i + ")", x.count(i), y.count(i));
-        }
-        for (int k = 0; k < Math.min(x.count(0), y.count(0)); k++) {
-            for (int i = 0; i < 6; i++) {
-                C.is(what + ", span(" + k + ", " + i + ")", x.span(k, i), y.span(k, i));
-            }
-        }
-        for (int m = 0; m < 360; m++) {
-            for (int i = 0; i < 5; i++) {
-                C.is(what + ", month(" + m + ", " + i + ")", x.month(m, i), y.month(m, i));
-            }
-        }
-        for (int country = 0; country < 5; country++) {
-            C.is(what + ", own()", x.own(country), y.own(country));
-            C.is(what + ", paid()", x.paid(country), y.paid(country));
-        }
-        C.is(what + ", gaps()", x.gaps(), y.gaps());
-        C.is(what + ", late()", x.late(4, 2, 100, 359, 999), y.late(4, 2, 100, 359, 999));
     }
 
     private static void drawn(int seed, int n) {

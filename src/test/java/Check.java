@@ -7,11 +7,17 @@ final class Check {
     }
 
     private final String name;
+    private String sentence = "";
     private int asked = 0;
     private int wrong = 0;
 
     Check(String name) {
         this.name = name;
+    }
+
+    /** The sentence of the document that the next answers are due by. */
+    void says(String sentence) {
+        this.sentence = "[" + sentence + "] ";
     }
 
     void is(String what, long got, long due) {
@@ -30,8 +36,9 @@ final class Check {
     }
 
     void row(String what, JoinedMonths x, long... due) {
-        is(what + ": numbers of the ROW", x.count(6), due.length);
-        for (int i = 0; i < due.length && i < x.count(6); i++) {
+        int size = x.count(6);
+        is(what + ": numbers of the ROW", size, due.length);
+        for (int i = 0; i < due.length && i < size; i++) {
             is(what + ": row(" + i + ")", x.row(i), due[i]);
         }
         throwsNone(what + ": row(" + due.length + ")", () -> x.row(due.length));
@@ -52,7 +59,7 @@ final class Check {
     private void tell(String fault) {
         wrong++;
         if (wrong <= 40) {
-            System.out.println(name + ": " + fault);
+            System.out.println(name + ": " + sentence + fault);
         }
     }
 
@@ -63,7 +70,7 @@ final class Check {
         }
     }
 
-    /** THE TEXT becomes this one. */
+    /** THE TEXT becomes this one, of 80 signs at most. */
     static void say(JoinedMonths x, String text) {
         x.end(0);
         for (int i = 0; i < text.length(); i += 4) {
@@ -83,5 +90,34 @@ final class Check {
             x.spans();
         }
         return x;
+    }
+
+    /** n SPANS of one MONTH each, in MONTHS 0, 10, 20, .. */
+    static JoinedMonths withSpans(int n) {
+        JoinedMonths x = new JoinedMonths();
+        for (int k = 0; k < n; k++) {
+            x.comes(k % 5, k % 4, 10 * k, 10 * k, 100 + k);
+        }
+        return x;
+    }
+
+    static int spans(JoinedMonths x, String text) {
+        say(x, text);
+        return x.spans();
+    }
+
+    static int laws(JoinedMonths x, String text) {
+        say(x, text);
+        return x.laws();
+    }
+
+    static int ranks(JoinedMonths x, String text) {
+        say(x, text);
+        return x.ranks();
+    }
+
+    static int day(JoinedMonths x, String text) {
+        say(x, text);
+        return x.day();
     }
 }

@@ -7,11 +7,8 @@ public final class RoomTest {
 
     public static void main(String[] args) {
         Check c = new Check("RoomTest");
-        JoinedMonths x = new JoinedMonths();
-        for (int k = 0; k < 20; k++) {
-            x.comes(k % 5, k % 4, 17 * k, 17 * k + 12 + k % 9, 100 + k);
-        }
-        calls(x);
+        JoinedMonths x = full();
+        calls(full());
         long before = made();
         long nothing = made() - before;
         before = made();
@@ -26,12 +23,20 @@ public final class RoomTest {
         c.end();
     }
 
+    private static JoinedMonths full() {
+        JoinedMonths x = new JoinedMonths();
+        for (int k = 0; k < 20; k++) {
+            x.comes(k % 5, k % 4, 17 * k, 17 * k + 12 + k % 9, 100 + k);
+        }
+        return x;
+    }
+
     private static long made() {
         return BEAN.getThreadAllocatedBytes(Thread.currentThread().getId());
     }
 
     private static void calls(JoinedMonths x) {
-        for (int i = 0; i < 30; i++) {
+        for (int i = 0; i < 12; i++) {
             x.years(i, 30);
             x.sign(0x6b30316c);
             x.sign(0x30320000);
