@@ -177,6 +177,9 @@ public final class WouldBeEdgesTest {
         C.says("Promise 27: Such a SPAN, and SPAN k not there: as late(), which is asked first; NONE, too: no such SPAN k");
         JoinedMonths none = new JoinedMonths();
         C.is("without SPANS", none.instead(0, 0, 0, 0, 0, 1), -1);
+        JoinedMonths only = Check.with("aw000058100");
+        C.is("of the only SPAN", only.instead(0, 1, 0, 100, 159, 100), 100612);
+        C.row("of the only SPAN", only, 119, 0, 159);
         JoinedMonths x = Check.with("aw000058100bw100111100");
         C.is("one MONTH more", x.instead(0, 0, 0, 0, 59, 100), 100000 + after(x, 0, "+aw000059100") - x.count(4));
         x.instead(0, 0, 0, 0, 59, 100);
