@@ -67,7 +67,7 @@ public final class TextsTest {
     private static void spans() {
         JoinedMonths x = new JoinedMonths();
         C.is("empty spans()", x.spans(), 0);
-        C.is("two", say(x, "ev000359999aw010010001"), 2);
+        C.is("two", Check.spans(x, "ev000359999aw010010001"), 2);
         C.is("THE TEXT is emptied", x.count(7), 0);
         int[][] due = {{4, 3, 0, 359, 999, 359}, {0, 0, 10, 10, 1, 1}};
         for (int k = 0; k < 2; k++) {
@@ -75,7 +75,7 @@ public final class TextsTest {
                 C.is("span(" + k + ", " + what + ")", x.span(k, what), due[k][what]);
             }
         }
-        C.is("behind those that there are", say(x, "bs000001002cc000001002dv000001002"), 5);
+        C.is("behind those that there are", Check.spans(x, "bs000001002cc000001002dv000001002"), 5);
         C.is("KIND s", x.span(2, 1), 1);
         C.is("KIND c", x.span(3, 1), 2);
         C.is("COUNTRY d", x.span(4, 0), 3);
@@ -89,7 +89,7 @@ public final class TextsTest {
             "aw01001000", "aw010010100b", "aw010010100bw000000001x", "aw010010100 ", "aw/00", "aw0100101\377"};
         int[] at = {0, 0, 1, 1, 4, 4, 3, 4, 7, 7, 10, 10, 12, 22, 11, 2, 9};
         for (int i = 0; i < texts.length; i++) {
-            C.is("spans() of " + texts[i], say(x, texts[i]), -1 - at[i]);
+            C.is("spans() of " + texts[i], Check.spans(x, texts[i]), -1 - at[i]);
             C.is("THE TEXT is emptied by " + texts[i], x.count(7), 0);
             C.is("nothing comes by " + texts[i], x.count(0), 0);
         }
@@ -97,23 +97,18 @@ public final class TextsTest {
         for (int i = 0; i < 19; i++) {
             x.comes(0, 0, 0, 0, 1);
         }
-        C.is("the 21st", say(x, "aw000000001aw000000001"), -12);
-        C.is("the 21st, with a wrong sign", say(x, "aw000000001!"), -12);
+        C.is("the 21st", Check.spans(x, "aw000000001aw000000001"), -12);
+        C.is("the 21st, with a wrong sign", Check.spans(x, "aw000000001!"), -12);
         C.is("19 stay", x.count(0), 19);
-        C.is("the 20th", say(x, "aw000000001"), 20);
-        C.is("none behind 20", say(x, "aw000000001"), -1);
-        C.is("empty with 20", say(x, ""), 20);
-    }
-
-    private static int say(JoinedMonths x, String text) {
-        Check.say(x, text);
-        return x.spans();
+        C.is("the 20th", Check.spans(x, "aw000000001"), 20);
+        C.is("none behind 20", Check.spans(x, "aw000000001"), -1);
+        C.is("empty with 20", Check.spans(x, ""), 20);
     }
 
     private static void laws() {
         JoinedMonths x = new JoinedMonths();
         C.is("empty laws()", x.laws(), 0);
-        C.is("laws()", laws(x, "e0010000000a2409999359e0020102003"), 3);
+        C.is("laws()", Check.laws(x, "e0010000000a2409999359e0020102003"), 3);
         C.is("THE TEXT is emptied", x.count(7), 0);
         int[][] due = {{240, 99, 99, 359}, {60, 10, 20, 300}, {60, 10, 20, 300}, {60, 10, 20, 300}, {2, 1, 2, 3}};
         for (int country = 0; country < 5; country++) {
@@ -131,7 +126,7 @@ public final class TextsTest {
         String[] texts = {"f", "a000", "a241", "a24", "a240x", "a2409", "a24099", "a240991", "a2409911360", "a2409911", "a240991135x", "b0010000000c", "b0010000000g", "b0010000000b000"};
         int[] at = {0, 3, 3, 3, 4, 5, 6, 7, 10, 8, 10, 12, 11, 14};
         for (int i = 0; i < texts.length; i++) {
-            C.is("laws() of " + texts[i], laws(x, texts[i]), -1 - at[i]);
+            C.is("laws() of " + texts[i], Check.laws(x, texts[i]), -1 - at[i]);
             C.is("THE TEXT is emptied by " + texts[i], x.count(7), 0);
         }
         for (int what = 0; what < 4; what++) {
@@ -140,35 +135,25 @@ public final class TextsTest {
         C.is("nothing kept", x.count(5), 0);
     }
 
-    private static int laws(JoinedMonths x, String text) {
-        Check.say(x, text);
-        return x.laws();
-    }
-
     private static void ranks() {
         JoinedMonths x = new JoinedMonths();
-        C.is("all are moved", ranks(x, "vcsw"), 4);
+        C.is("all are moved", Check.ranks(x, "vcsw"), 4);
         C.is("RANKS", x.count(3), 3210);
-        C.is("none is moved", ranks(x, "vcsw"), 0);
-        C.is("two are moved", ranks(x, "vscw"), 2);
+        C.is("none is moved", Check.ranks(x, "vcsw"), 0);
+        C.is("two are moved", Check.ranks(x, "vscw"), 2);
         C.is("RANKS", x.count(3), 3120);
-        C.is("three are moved", ranks(x, "cvsw"), 3);
+        C.is("three are moved", Check.ranks(x, "cvsw"), 3);
         C.is("kept", x.count(5), 4);
         C.is("undone", x.undo(), 3);
         C.is("RANKS", x.count(3), 3120);
         String[] texts = {"", "w", "wsc", "x", "ww", "wsw", "wscw", "wscvx", "wscvw", "wsCv"};
         int[] at = {0, 1, 3, 0, 1, 2, 3, 4, 4, 2};
         for (int i = 0; i < texts.length; i++) {
-            C.is("ranks() of " + texts[i], ranks(x, texts[i]), -1 - at[i]);
+            C.is("ranks() of " + texts[i], Check.ranks(x, texts[i]), -1 - at[i]);
             C.is("THE TEXT is emptied by " + texts[i], x.count(7), 0);
             C.is("RANKS stay", x.count(3), 3120);
         }
         C.is("kept", x.count(5), 3);
-    }
-
-    private static int ranks(JoinedMonths x, String text) {
-        Check.say(x, text);
-        return x.ranks();
     }
 
     private static void sheet() {
